@@ -292,7 +292,7 @@ public final class OctagonDesk {
             return false;
         }
         if (round >= FIRST_WIDENING_ROUND && step.to <= step.from) {
-            made.stretchOver(end);
+            // A most is greater in the join than at the end just where it is so in what was made.
             end.loosenBy(made);
             makeRoom(end);
         } else {
@@ -407,13 +407,14 @@ public final class OctagonDesk {
             }
             takeOver(before);
             if (kind == BOUND) {
-                bind(a, b, c);
+                numbers.set(SPARE, a == b ? 2 * c : c);
+                holdToSpare(a, b);
             } else {
                 scatter(a, b, c);
             }
         }
 
-        /** Others say no more by xi than by themselves: their cells are as low as they can be. */
+        /** What xi's bounds said of the others stays, since the others' cells are as low as can be. */
         void release(int i) {
             for (int p = 2 * i; p <= 2 * i + 1; p++) {
                 for (int q = 0; q < TERMS; q++) {
@@ -425,14 +426,18 @@ public final class OctagonDesk {
             numbers.set(cell(2 * i + 1, 2 * i), 0);
         }
 
-        private void bind(int p, int q, long most) {
-            numbers.set(SPARE, p == q ? 2 * most : most);
+        /** Keeps the places at which p + q is at most what the spare cell says. */
+        private void holdToSpare(int p, int q) {
             if (empty || !numbers.isLess(SPARE, numbers, cell(p, q))) {
                 return;
             }
             numbers.put(cell(p, q), numbers, SPARE);
             numbers.put(cell(q, p), numbers, SPARE);
-            bringIn(p, q);
+            passThrough(p, q);
+            if (p != q) {
+                passThrough(q, p);
+            }
+            combineSingles();
         }
 
         /** What the new value adds up to is what its term added up to before, so nothing is lost. */
@@ -484,13 +489,18 @@ public final class OctagonDesk {
             close();
         }
 
-        /** The greater of two cells that are as low as can be is as low as can be for both. */
-        void stretchOver(Shape other) {
-            if (other.empty) {
-                return;
-            }
+        /** Joined with an empty shape, or widened by or from one, a shape stays as it is. */
+        private boolean isSettledByEmptiness(Shape other) {
+            boolean settled = empty || other.empty;
             if (empty) {
                 takeOver(other);
+            }
+            return settled;
+        }
+
+        /** The greater of two cells that are as low as can be is as low as can be for both. */
+        void stretchOver(Shape other) {
+            if (isSettledByEmptiness(other)) {
                 return;
             }
             for (int i = 0; i < PAIRS; i++) {
@@ -501,11 +511,7 @@ public final class OctagonDesk {
         }
 
         void loosenBy(Shape other) {
-            if (other.empty) {
-                return;
-            }
-            if (empty) {
-                takeOver(other);
+            if (isSettledByEmptiness(other)) {
                 return;
             }
             for (int i = 0; i < PAIRS; i++) {
@@ -553,14 +559,15 @@ public final class OctagonDesk {
             int up = cell(2 * i, 2 * i);
             int down = cell(2 * i + 1, 2 * i + 1);
             if (numbers.isInfinite(up) && numbers.isInfinite(down)) {
-                bind(2 * i, 2 * i, 0);
+                numbers.set(SPARE, 0);
+                holdToSpare(2 * i, 2 * i);
             }
             if (numbers.isInfinite(down)) {
-                numbers.putNegative(down, up);
-                bringIn(2 * i + 1, 2 * i + 1);
+                numbers.putNegative(SPARE, up);
+                holdToSpare(2 * i + 1, 2 * i + 1);
             } else {
-                numbers.putNegative(up, down);
-                bringIn(2 * i, 2 * i);
+                numbers.putNegative(SPARE, down);
+                holdToSpare(2 * i, 2 * i);
             }
         }
 
@@ -583,26 +590,18 @@ public final class OctagonDesk {
             return true;
         }
 
-        /** Makes all cells as low as can be if they were so before those of p and q became lower. */
-        private void bringIn(int p, int q) {
-            passThrough(p, q);
-            if (p != q && !empty) {
-                passThrough(q, p);
-            }
-            if (!empty) {
-                tighten();
-            }
-        }
-
+        /** Lowers what chains of bounds add up to that go through the cell of p and q once. */
         private void passThrough(int p, int q) {
             numbers.putSum(SPARE, cell(p, q), cell(negation(q), negation(p)));
-            if (numbers.isNegative(SPARE)) {
+            if (empty || numbers.isNegative(SPARE)) {
                 empty = true;
                 return;
             }
             for (int i = 0; i < TERMS; i++) {
                 numbers.putSum(SPARE, cell(i, negation(p)), cell(p, q));
-                lowerRow(i, SPARE, negation(q));
+                for (int j = 0; j < TERMS && !numbers.isInfinite(SPARE); j++) {
+                    numbers.lower(cell(i, j), SPARE, cell(negation(q), j));
+                }
             }
         }
 
@@ -610,49 +609,29 @@ public final class OctagonDesk {
         private void close() {
             for (int k = 0; k < TERMS && !empty; k++) {
                 for (int p = 0; p < TERMS; p++) {
-                    lowerRow(p, cell(p, k), negation(k));
+                    for (int q = 0; q < TERMS && !numbers.isInfinite(cell(p, k)); q++) {
+                        numbers.lower(cell(p, q), cell(p, k), cell(negation(k), q));
+                    }
                 }
                 findContradiction();
             }
-            if (!empty) {
-                tighten();
-            }
+            combineSingles();
         }
 
-        private void lowerRow(int p, int start, int k) {
-            if (numbers.isInfinite(start)) {
+        /** The half is rounded down, as whole numbers ask, so that p and p get an even number too. */
+        private void combineSingles() {
+            if (empty) {
                 return;
             }
-            for (int q = 0; q < TERMS; q++) {
-                numbers.lower(cell(p, q), start, cell(k, q));
-            }
-        }
-
-        /** Whole numbers make twice a term even; with that, sums of single terms say all there is. */
-        private void tighten() {
-            for (int p = 0; p < TERMS; p++) {
-                numbers.roundDownToEven(cell(p, p));
-            }
-            combineSingles();
-            findContradiction();
-        }
-
-        private void combineSingles() {
             for (int p = 0; p < TERMS; p++) {
                 numbers.putHalf(ALONE + p, cell(p, p));
             }
             for (int p = 0; p < TERMS; p++) {
-                lowerRowBySingles(p);
+                for (int q = 0; q < TERMS && !numbers.isInfinite(ALONE + p); q++) {
+                    numbers.lower(cell(p, q), ALONE + p, ALONE + q);
+                }
             }
-        }
-
-        private void lowerRowBySingles(int p) {
-            if (numbers.isInfinite(ALONE + p)) {
-                return;
-            }
-            for (int q = 0; q < TERMS; q++) {
-                numbers.lower(cell(p, q), ALONE + p, ALONE + q);
-            }
+            findContradiction();
         }
 
         private void findContradiction() {
@@ -666,8 +645,9 @@ public final class OctagonDesk {
 
     /**
      * Cells with a whole number each, or infinite. Meeting shapes that were built of one another
-     * doubles numbers, which in 512 calls goes far beyond long, so a number has limbs: the highest
-     * one with the sign, those below it from 0 to LIMB_MASK. With one limb it is a plain long.
+     * doubles numbers, and so does a run that comes to no end, both far beyond long; so a number has
+     * limbs: the highest one with the sign, those below it from 0 to LIMB_MASK. With one limb, which
+     * is nearly always enough, it is a plain long.
      */
     private static final class Numbers {
         private static final int LIMB_BITS = 60;
@@ -768,17 +748,14 @@ public final class OctagonDesk {
         }
 
         void putSum(int to, int i, int j) {
-            if (isInfinite(i) || isInfinite(j)) {
-                setInfinite(to);
-                return;
-            }
+            boolean infinite = limbs[top + i] == INFINITE || limbs[top + j] == INFINITE;
             long carry = 0;
             for (int at = 0; at < top; at += cells) {
                 carry += limbs[at + i] + limbs[at + j];
-                limbs[at + to] = carry & LIMB_MASK;
+                limbs[at + to] = infinite ? 0 : carry & LIMB_MASK;
                 carry >>= LIMB_BITS;
             }
-            limbs[top + to] = limbs[top + i] + limbs[top + j] + carry;
+            limbs[top + to] = infinite ? INFINITE : limbs[top + i] + limbs[top + j] + carry;
         }
 
         void lower(int i, int j, int k) {
@@ -813,12 +790,6 @@ public final class OctagonDesk {
                 long limb = limbs[at + i] + (rest << LIMB_BITS);
                 rest = limb & 1;
                 limbs[at + to] = limb >> 1;
-            }
-        }
-
-        void roundDownToEven(int i) {
-            if (!isInfinite(i)) {
-                limbs[i] &= -2L;
             }
         }
 
