@@ -312,7 +312,8 @@ public final class OctagonDesk {
         long box = 1;
         for (int i = 0; i < VARIABLES; i++) {
             long spread = made.mostOf(2 * i, 2 * i);
-            if (spread >= BOX_LIMIT) {
+            // Below 0 only behind call 512, when numbers may have outgrown all room: counting ends then, too.
+            if (spread < 0 || spread >= BOX_LIMIT) {
                 return false;
             }
             box *= spread + 1;

@@ -5,6 +5,7 @@ final class Check {
     }
 
     private final String test;
+    private String about = "";
     private int looked;
     private int wrong;
 
@@ -12,23 +13,24 @@ final class Check {
         this.test = test;
     }
 
+    /** The document's words that the answers looked at from here on keep or break. */
+    void sentence(String words) {
+        about = "\"" + words + "\": ";
+    }
+
     void due(String call, long got, long want) {
-        looked++;
-        if (got != want) {
-            wrong++;
-            System.out.println(test + ": " + call + " answered " + got + ", due is " + want);
-        }
+        due(call, "" + got, "" + want);
     }
 
     void due(String call, boolean got, boolean want) {
-        due(call, got ? 1 : 0, want ? 1 : 0);
+        due(call, "" + got, "" + want);
     }
 
     void due(String call, String got, String want) {
         looked++;
         if (!got.equals(want)) {
             wrong++;
-            System.out.println(test + ": " + call + " answered " + got + ", due is " + want);
+            System.out.println(test + ": " + about + call + " answered " + got + ", due is " + want);
         }
     }
 
@@ -40,7 +42,11 @@ final class Check {
         due(call + " throws", thrownBy(body), "IllegalStateException");
     }
 
-    private static String thrownBy(Call body) {
+    void fine(String call, Call body) {
+        due(call + " throws", thrownBy(body), "nothing");
+    }
+
+    static String thrownBy(Call body) {
         try {
             body.go();
             return "nothing";

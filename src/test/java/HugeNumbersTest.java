@@ -18,7 +18,11 @@ public final class HugeNumbersTest {
         for (int doublings = 30; doublings <= 66; doublings++) {
             new HugeNumbersTest("doublings", doublings).exactDifference(doublings);
         }
+        for (int doublings = 20; doublings <= 50; doublings++) {
+            new HugeNumbersTest("round", doublings).goingRound(doublings);
+        }
         new HugeNumbersTest("run again", 1).runAgainAndAgain();
+        new HugeNumbersTest("halves", 1).halvesOnTheWay();
         for (int seed = 1; seed <= seeds && CHECK.isClean(); seed++) {
             new HugeNumbersTest("dice", seed).thrownByDice();
             new HugeNumbersTest("chained", seed).chained();
@@ -88,8 +92,43 @@ public final class HugeNumbersTest {
         desks.call("isEmpty", 0);
     }
 
+    /** Each variable is huge more than the one before, and the first more than the last: no place. */
+    private void goingRound(int doublings) {
+        desks.call("act", 0, 0, 0, 3, -1000000);
+        desks.call("act", 0, 0, 1, 2, 1000000);
+        for (int i = 0; i < doublings; i++) {
+            doubleDifference();
+        }
+        desks.call("copy", 2, 0);
+        for (int i = 2; i < 6; i++) {
+            desks.call("copy", 1, 0);
+            desks.call("act", 1, 1, i, 2, 0);
+            desks.call("act", 1, 1, i - 1, 0, 0);
+            forgetAllBut(1, i, i - 1);
+            desks.call("meet", 2, 2, 1);
+        }
+        desks.call("bounds", 2);
+        desks.call("most", 2, 10, 9);
+        desks.call("copy", 1, 0);
+        desks.call("act", 1, 1, 5, 0, 0);
+        desks.call("act", 1, 1, 0, 2, 0);
+        forgetAllBut(1, 0, 5);
+        desks.call("meet", 3, 2, 1);
+        desks.call("meet", 4, 1, 2);
+        desks.call("isEmpty", 3);
+        desks.call("bounds", 4);
+    }
+
+    private void forgetAllBut(int slot, int i, int j) {
+        for (int k = 0; k < 6; k++) {
+            if (k != i && k != j) {
+                desks.call("forget", slot, k);
+            }
+        }
+    }
+
     /** Each run doubles x0 - x1 and x2 - x3 at point 4, which keeps the two pairs apart. */
-    private void runAgainAndAgain() {
+    private void tellDoubling() {
         desks.call("act", 0, 0, 0, 3, 999999);
         desks.call("act", 0, 0, 4, 7, 1000000);
         desks.call("step", 8 * 0 + 1, 0, 2, 5, 0);
@@ -97,6 +136,45 @@ public final class HugeNumbersTest {
         desks.call("step", 8 * 2 + 3, 1, 2, 0, 0);
         desks.call("step", 8 * 3 + 4, 1, 3, 2, 0);
         desks.call("step", 8 * 0 + 4, 1, 0, 0, 0);
+    }
+
+    private void halvesOnTheWay() {
+        tellDoubling();
+        int runs = 0;
+        while (desks.callsLeft() > 60) {
+            desks.call("run", 0);
+            desks.call("take", 0, 4);
+            runs++;
+            if (runs % 6 == 0) {
+                desks.call("act", 0, 1, 0, 0, dice.from(-1000000, 1000000));
+                desks.call("act", 0, 1, 2, 4, dice.from(-1000000, 1000000));
+            }
+            if (runs % 12 == 0 || runs > 100 && runs % 3 == 0) {
+                lookAtHalves();
+            }
+        }
+    }
+
+    /** x0 <= (x0 + x1) / 2 by x0 <= x1; x0 + x2 by the two alone is compared with what x0 + x1 was. */
+    private void lookAtHalves() {
+        desks.call("copy", 1, 0);
+        desks.call("act", 1, 1, 1, 3, 0);
+        desks.call("copy", 2, 1);
+        desks.call("act", 2, 0, 0, 3, 0);
+        desks.call("act", 2, 1, 2, 0, 0);
+        desks.call("forget", 2, 1);
+        desks.call("act", 1, 1, 2, 2, 0);
+        desks.call("forget", 1, 1);
+        for (int i = 0; i < 3; i++) {
+            desks.call("inside", 2, 1);
+            desks.call("act", 1, 1, 0, 0, -1);
+        }
+        desks.call("bounds", 1);
+        desks.call("bounds", 2);
+    }
+
+    private void runAgainAndAgain() {
+        tellDoubling();
         while (desks.callsLeft() > 30) {
             desks.call("run", 0);
             desks.call("take", 0, 4);
