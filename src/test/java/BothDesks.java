@@ -1,30 +1,60 @@
-/** Tells every call to the class and to the plain desk, and looks whether they answer the same. */
+import java.util.Arrays;
+import java.util.Map;
+import java.util.TreeMap;
+
+/** Tells every call to the class and to a plain desk, and looks whether they answer the same. */
 final class BothDesks {
+    static final String NOT_MADE = "not made";
     private static final int CALL_LIMIT = 512;
 
     private final OctagonDesk desk = new OctagonDesk();
-    private final PlainDesk plain = new PlainDesk();
+    private final PlainDesk<?> plain;
     private final Check check;
     private final String run;
+    private final Map<String, Integer> tally = new TreeMap<>();
     private int calls;
 
-    BothDesks(Check check, String run) {
+    BothDesks(Check check, String run, PlainDesk<?> plain) {
         this.check = check;
         this.run = run;
+        this.plain = plain;
+    }
+
+    static PlainDesk<PlainShape> tables() {
+        return new PlainDesk<>(PlainShape.allPlaces(), PlainShape.noPlaces());
+    }
+
+    static PlainDesk<SeenShape> places(int... used) {
+        return new PlainDesk<>(SeenShape.allPlaces(used), SeenShape.noPlaces(used));
     }
 
     int callsLeft() {
         return CALL_LIMIT - calls;
     }
 
+    /** A call is not made where the plain desk's shapes end, nor behind the last one. */
     String call(String name, int... x) {
         if (calls >= CALL_LIMIT) {
-            return "no calls left";
+            return NOT_MADE;
+        }
+        String want;
+        try {
+            want = plain.call(name, x);
+        } catch (SeenShape.TooGreat e) {
+            return NOT_MADE;
         }
         calls++;
-        String want = plain.call(name, x);
-        check.due(run + " call " + calls + " " + name + java.util.Arrays.toString(x), answer(name, x), want);
+        String call = name + Arrays.toString(x);
+        tally.merge(name + " " + want, 1, Integer::sum);
+        check.due(run + " call " + calls + " " + call, answer(name, x), want);
         return want;
+    }
+
+    /** How often each sort of call had each answer. */
+    void addTo(Map<String, Integer> all) {
+        for (Map.Entry<String, Integer> one : tally.entrySet()) {
+            all.merge(one.getKey(), one.getValue(), Integer::sum);
+        }
     }
 
     private String answer(String name, int[] x) {

@@ -83,18 +83,10 @@ public final class CallLimitTest {
     private static void dearestCallsAllTheTime() {
         CHECK.sentence("An object is used for at most 512 calls (of the dearest sort)");
         OctagonDesk x = new OctagonDesk();
-        int[] least = {-2, -2, -1, -4, 0};
-        int[] greatest = {0, 1, 3, 0, 4};
         int calls = 0;
-        for (int i = 0; i < 5; i++) {
-            x.act(0, ANY, i, least[i], greatest[i]);
-        }
+        FoundProgram.endless().fill(x, 0);
         for (int i = 0; i < 4; i++) {
-            x.step(Desks.way(0, 0), TELLING, 4, 4, 4);
-            x.step(Desks.way(0, 0), TELLING, 2, 7, -3);
-            x.step(Desks.way(0, 0), BOUND, 4, 1, 5);
-            x.step(Desks.way(0, 0), TELLING, 3, 9, 4);
-            x.step(Desks.way(0, 0), BOUND, 4, 8, -1);
+            FoundProgram.endless().tell(x);
         }
         calls += 25;
         for (; calls < LIMIT - 1; calls++) {

@@ -4,13 +4,29 @@ final class Check {
         void go();
     }
 
+    private static final long TIME_LIMIT = 900_000;
+
     private final String test;
-    private String about = "";
+    private volatile String about = "";
     private int looked;
     private int wrong;
 
     Check(String test) {
         this.test = test;
+        Thread clock = new Thread(this::giveUp);
+        clock.setDaemon(true);
+        clock.start();
+    }
+
+    /** No call may fail to end: a test that takes some hundred times as long as it should has found one. */
+    private void giveUp() {
+        try {
+            Thread.sleep(TIME_LIMIT);
+        } catch (InterruptedException e) {
+            return;
+        }
+        System.out.println(test + ": no end in sight; it was at " + about);
+        Runtime.getRuntime().halt(1);
     }
 
     /** The document's words that the answers looked at from here on keep or break. */

@@ -1,3 +1,5 @@
+import java.util.StringJoiner;
+
 /** Shapes and programs that several tests begin with. */
 final class Desks {
     static final int BOUND = 0;
@@ -84,5 +86,28 @@ final class Desks {
             x.act(0, TELLING, 1, 4, 0);
             x.forget(0, 2);
         }
+    }
+
+    static String name(int p, int q) {
+        String first = (p % 2 == 0 ? "x" : "-x") + p / 2;
+        return p == q ? first : first + (q % 2 == 0 ? "+x" : "-x") + q / 2;
+    }
+
+    /** All that bounds a slot's shape, such as "x0<=4, x0-x1<=2"; takes 73 calls, or one if it is empty. */
+    static String text(OctagonDesk x, int slot) {
+        if (x.isEmpty(slot)) {
+            return "EMPTY";
+        }
+        StringJoiner text = new StringJoiner(", ");
+        text.setEmptyValue("all");
+        for (int p = 0; p < 12; p++) {
+            for (int q = p; q < 12; q++) {
+                long most = q == (p ^ 1) ? OctagonDesk.INFINITE : x.most(slot, p, q);
+                if (most != OctagonDesk.INFINITE) {
+                    text.add(name(p, q) + "<=" + most);
+                }
+            }
+        }
+        return text.toString();
     }
 }

@@ -19,4 +19,17 @@ final class Dice {
     boolean oneIn(int sides) {
         return below(sides) == 0;
     }
+
+    /** So many of the numbers below the limit, in their order. */
+    int[] someOf(int limit, int count) {
+        int[] some = new int[count];
+        int at = 0;
+        for (int i = 0; i < limit && at < count; i++) {
+            if (below(limit - i) < count - at) {
+                some[at] = i;
+                at++;
+            }
+        }
+        return some;
+    }
 }

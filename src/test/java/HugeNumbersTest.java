@@ -10,7 +10,7 @@ public final class HugeNumbersTest {
 
     private HugeNumbersTest(String name, int seed) {
         dice = new Dice(seed);
-        desks = new BothDesks(CHECK, name + " " + seed);
+        desks = new BothDesks(CHECK, name + " " + seed, BothDesks.tables());
     }
 
     public static void main(String[] args) {

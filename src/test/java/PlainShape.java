@@ -5,7 +5,7 @@ import java.math.BigInteger;
  * and again until it brings nothing, new values told by a seventh variable that takes the old one's
  * place.
  */
-final class PlainShape {
+final class PlainShape implements SomeShape<PlainShape> {
     static final int VARIABLES = 6;
     private static final int HELPER = VARIABLES;
     private static final int TERMS = 2 * (VARIABLES + 1);
@@ -36,19 +36,21 @@ final class PlainShape {
         return shape;
     }
 
-    boolean isEmpty() {
+    @Override
+    public boolean isEmpty() {
         return empty;
     }
 
-    /** Null without a greatest. */
-    BigInteger most(int p, int q) {
+    @Override
+    public BigInteger most(int p, int q) {
         if (p != q || most[p][p] == null) {
             return most[p][q];
         }
         return half(most[p][p]);
     }
 
-    PlainShape act(int kind, int a, int b, int c) {
+    @Override
+    public PlainShape act(int kind, int a, int b, int c) {
         if (empty) {
             return this;
         }
@@ -73,13 +75,15 @@ final class PlainShape {
         return shape;
     }
 
-    PlainShape forget(int i) {
+    @Override
+    public PlainShape forget(int i) {
         PlainShape shape = copy();
         shape.drop(i);
         return shape;
     }
 
-    PlainShape meet(PlainShape other) {
+    @Override
+    public PlainShape meet(PlainShape other) {
         if (empty || other.empty) {
             return noPlaces();
         }
@@ -95,7 +99,8 @@ final class PlainShape {
         return shape;
     }
 
-    PlainShape join(PlainShape other) {
+    @Override
+    public PlainShape join(PlainShape other) {
         if (empty || other.empty) {
             return empty ? other : this;
         }
@@ -111,7 +116,8 @@ final class PlainShape {
         return shape;
     }
 
-    PlainShape widen(PlainShape other) {
+    @Override
+    public PlainShape widen(PlainShape other) {
         if (empty || other.empty) {
             return empty ? other : this;
         }
@@ -127,7 +133,8 @@ final class PlainShape {
         return shape;
     }
 
-    boolean isInside(PlainShape other) {
+    @Override
+    public boolean isInside(PlainShape other) {
         if (empty || other.empty) {
             return empty;
         }
@@ -141,7 +148,8 @@ final class PlainShape {
         return true;
     }
 
-    int bounds() {
+    @Override
+    public int bounds() {
         if (empty) {
             return -1;
         }
@@ -156,7 +164,8 @@ final class PlainShape {
         return count;
     }
 
-    BigInteger first(int i) {
+    @Override
+    public BigInteger first(int i) {
         PlainShape shape = copy();
         BigInteger value = BigInteger.ZERO;
         for (int j = 0; j <= i; j++) {
@@ -175,7 +184,8 @@ final class PlainShape {
         return value;
     }
 
-    int places() {
+    @Override
+    public int places() {
         if (empty) {
             return 0;
         }

@@ -322,25 +322,12 @@ public final class ProgramBoundariesTest {
         }
     }
 
-    /** Found by search: point 2 changes in round 29 for the last time, the others change no more then. */
     private static void tellTwentyNineChanges(OctagonDesk x) {
-        x.step(way(2, 0), BOUND, 1, 5, 0);
-        x.step(way(2, 0), TELLING, 1, 0, 1);
-        x.step(way(1, 2), TELLING, 0, 2, -3);
-        x.step(way(2, 0), TELLING, 1, 2, 1);
-        x.step(way(0, 1), TELLING, 2, 1, -4);
-        x.step(way(2, 0), TELLING, 0, 0, -4);
-        x.step(way(0, 1), BOUND, 4, 0, 9);
-        x.step(way(2, 1), TELLING, 0, 1, 1);
-        x.step(way(2, 0), BOUND, 4, 2, -2);
-        x.step(way(1, 2), ANY, 1, -3, 0);
-        x.step(way(2, 0), TELLING, 0, 3, 3);
+        FoundProgram.thirtyRounds().tell(x);
     }
 
     private static void fillForTwentyNineChanges(OctagonDesk x, int slot) {
-        x.act(slot, ANY, 0, 0, 4);
-        x.act(slot, ANY, 1, -1, 4);
-        x.act(slot, ANY, 2, 0, 3);
+        FoundProgram.thirtyRounds().fill(x, slot);
     }
 
     /** A copy of point 2 told last changes with it in round 29, told first only in round 30. */

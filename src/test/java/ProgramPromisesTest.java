@@ -177,73 +177,36 @@ public final class ProgramPromisesTest {
         CHECK.due("17: against it", x.run(0), 3);
     }
 
-    /** Found by search: nothing changes in the thirtieth round for the first time. */
-    private static void promise17TheThirtiethRound() {
+    private static OctagonDesk told(FoundProgram found) {
         OctagonDesk x = new OctagonDesk();
-        x.act(0, ANY, 0, 0, 4);
-        x.act(0, ANY, 1, -1, 4);
-        x.act(0, ANY, 2, 0, 3);
-        x.step(way(2, 0), BOUND, 1, 5, 0);
-        x.step(way(2, 0), TELLING, 1, 0, 1);
-        x.step(way(1, 2), TELLING, 0, 2, -3);
-        x.step(way(2, 0), TELLING, 1, 2, 1);
-        x.step(way(0, 1), TELLING, 2, 1, -4);
-        x.step(way(2, 0), TELLING, 0, 0, -4);
-        x.step(way(0, 1), BOUND, 4, 0, 9);
-        x.step(way(2, 1), TELLING, 0, 1, 1);
-        x.step(way(2, 0), BOUND, 4, 2, -2);
-        x.step(way(1, 2), ANY, 1, -3, 0);
-        x.step(way(2, 0), TELLING, 0, 3, 3);
+        found.fill(x, 0);
+        found.tell(x);
+        return x;
+    }
+
+    private static void promise17TheThirtiethRound() {
+        OctagonDesk x = told(FoundProgram.thirtyRounds());
         CHECK.due("17: 30 rounds", x.run(0), 30);
         CHECK.due("17: have not failed", x.take(1, 2), true);
     }
 
-    /** Found by search: nothing would change in the thirty-first round for the first time. */
     private static void promise17TheThirtyFirstRound() {
-        OctagonDesk x = new OctagonDesk();
-        x.act(0, ANY, 0, 0, 3);
-        x.act(0, ANY, 1, 0, 2);
-        x.act(0, ANY, 2, -3, 2);
-        x.act(0, ANY, 3, -2, 1);
-        x.act(0, ANY, 4, 0, 1);
-        x.step(way(2, 0), TELLING, 4, 2, -3);
-        x.step(way(0, 2), TELLING, 1, 4, 1);
-        x.step(way(0, 1), BOUND, 6, 9, -4);
-        x.step(way(1, 0), TELLING, 1, 8, 1);
-        x.step(way(1, 1), TELLING, 2, 3, 4);
-        x.step(way(0, 0), TELLING, 4, 0, 0);
+        OctagonDesk x = told(FoundProgram.thirtyOneRounds());
         CHECK.due("17: 31 rounds are too many", x.run(0), NONE);
         CHECK.due("17: and leave nothing", x.take(1, 2), false);
     }
 
-    /** Found by search: bounds that are dropped come back by chains of others, greater each time. */
-    private static void tellEndlessProgram(OctagonDesk x) {
-        x.step(way(0, 0), TELLING, 4, 4, 4);
-        x.step(way(0, 0), TELLING, 2, 7, -3);
-        x.step(way(0, 0), BOUND, 4, 1, 5);
-        x.step(way(0, 0), TELLING, 3, 9, 4);
-        x.step(way(0, 0), BOUND, 4, 8, -1);
-    }
-
     private static void promise17Failed() {
-        OctagonDesk x = new OctagonDesk();
+        OctagonDesk x = told(FoundProgram.endless());
         x.act(1, ANY, 0, 3, 4);
+        CHECK.due("17: its steps", x.erase(), 5);
         CHECK.due("17: first a good run", x.run(1), 1);
-        x.act(0, ANY, 0, -2, 0);
-        x.act(0, ANY, 1, -2, 1);
-        x.act(0, ANY, 2, -1, 3);
-        x.act(0, ANY, 3, -4, 0);
-        x.act(0, ANY, 4, 0, 4);
-        tellEndlessProgram(x);
+        FoundProgram.endless().tell(x);
         CHECK.due("17: failed", x.run(0), NONE);
         CHECK.due("17: what was run before stays", x.take(2, 0), true);
         CHECK.due("17: all of it", x.inside(2, 1) && x.inside(1, 2), true);
         CHECK.due("17: the steps stay", x.erase(), 5);
-        OctagonDesk y = new OctagonDesk();
-        for (int i = 0; i < 5; i++) {
-            y.act(0, ANY, i, new int[] {-2, -2, -1, -4, 0}[i], new int[] {0, 1, 3, 0, 4}[i]);
-        }
-        tellEndlessProgram(y);
+        OctagonDesk y = told(FoundProgram.endless());
         CHECK.due("17: failed at once", y.run(0), NONE);
         CHECK.due("17: nothing was run", y.take(2, 0), false);
     }
