@@ -4,7 +4,7 @@ final class Check {
         void go();
     }
 
-    private static final long TIME_LIMIT = 900_000;
+    private static final long TIME_LIMIT = 600_000;
 
     private final String test;
     private volatile String about = "";
@@ -18,7 +18,7 @@ final class Check {
         clock.start();
     }
 
-    /** No call may fail to end: a test that takes some hundred times as long as it should has found one. */
+    /** No call may fail to end: a test that takes some fifty times as long as it should has found one. */
     private void giveUp() {
         try {
             Thread.sleep(TIME_LIMIT);

@@ -22,6 +22,7 @@ public final class HugeNumbersTest {
             new HugeNumbersTest("round", doublings).goingRound(doublings);
         }
         new HugeNumbersTest("run again", 1).runAgainAndAgain();
+        new HugeNumbersTest("run far", 1).runAsFarAsCanBe();
         new HugeNumbersTest("halves", 1).halvesOnTheWay();
         for (int seed = 1; seed <= seeds && CHECK.isClean(); seed++) {
             new HugeNumbersTest("dice", seed).thrownByDice();
@@ -179,6 +180,37 @@ public final class HugeNumbersTest {
             desks.call("run", 0);
             desks.call("take", 0, 4);
         }
+        lookAtOneMoreAndOneLess();
+    }
+
+    /** Two doublings by each run, from point 0 to 3 and from 3 to 6: the most bits that 512 calls were found to make. */
+    private void runAsFarAsCanBe() {
+        desks.call("act", 0, 0, 0, 3, 999999);
+        desks.call("act", 0, 0, 4, 7, 1000000);
+        for (int point = 0; point <= 3; point += 3) {
+            desks.call("step", 9 * point + 1, 0, 2, 5, 0);
+            desks.call("step", 9 * point + 10, 1, 1, 6, 0);
+            desks.call("step", 9 * point + 19, 1, 2, 0, 0);
+            desks.call("step", 9 * point + 3, 1, 0, 0, 0);
+        }
+        while (desks.callsLeft() > 30) {
+            desks.call("run", 0);
+            desks.call("take", 0, 6);
+        }
+        lookAtOneMoreAndOneLess();
+        desks.call("copy", 2, 0);
+        desks.call("act", 2, 1, 0, 0, 1);
+        desks.call("join", 3, 0, 2);
+        desks.call("inside", 3, 2);
+        desks.call("inside", 3, 0);
+        desks.call("widen", 4, 0, 3);
+        desks.call("bounds", 4);
+        desks.call("meet", 5, 2, 3);
+        desks.call("inside", 5, 3);
+        desks.call("inside", 5, 0);
+    }
+
+    private void lookAtOneMoreAndOneLess() {
         desks.call("bounds", 0);
         desks.call("copy", 1, 0);
         desks.call("act", 1, 1, 0, 0, 1);
