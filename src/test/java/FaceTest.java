@@ -1,16 +1,20 @@
+import java.io.IOException;
 import java.lang.reflect.Constructor;
 import java.lang.reflect.Field;
 import java.lang.reflect.Method;
 import java.lang.reflect.Modifier;
+import java.nio.file.Files;
+import java.nio.file.Path;
 import java.util.Set;
 import java.util.TreeSet;
 
 /** The class has the document's constants, constructor and methods, and nothing else to be seen. */
 public final class FaceTest {
+    private static final Path DOCUMENT = Path.of("..", "shared", "DOC.md");
     private static final String ARGUMENT = " throws IllegalArgumentException";
     private static final String BOTH = ARGUMENT + " IllegalStateException";
 
-    public static void main(String[] args) {
+    public static void main(String[] args) throws IOException {
         Check check = new Check("Face");
         check.due("INFINITE", OctagonDesk.INFINITE, 9223372036854775807L);
         check.due("NONE", OctagonDesk.NONE, -1);
@@ -26,7 +30,33 @@ public final class FaceTest {
             check.due(inner.getName() + " is static", Modifier.isStatic(modifiers), true);
             check.due(inner.getName() + " is hidden", Modifier.isPublic(modifiers) || Modifier.isProtected(modifiers), false);
         }
+        compareWithDocument(check);
         check.finish();
+    }
+
+    /** The document tells each method twice: in 'The public face' and at the head of its promise. */
+    private static void compareWithDocument(Check check) throws IOException {
+        if (!Files.isReadable(DOCUMENT)) {
+            System.out.println("there is no " + DOCUMENT + " to compare the face with");
+            return;
+        }
+        Set<String> face = new TreeSet<>();
+        Set<String> promises = new TreeSet<>();
+        for (String line : Files.readAllLines(DOCUMENT)) {
+            if (line.matches(" +public \\w+ \\w+\\(.*")) {
+                face.add(withoutNames(line.replaceFirst(" +public ", "").replace(";", "")));
+            } else if (line.matches("`\\w+ \\w+\\(.*`: .*")) {
+                promises.add(withoutNames(line.replaceAll("^`|`: .*", "")));
+            }
+        }
+        check.due("the document's face", face.toString(), dueMethods().toString());
+        check.due("the document's promises", promises.toString(), dueMethods().toString());
+    }
+
+    private static String withoutNames(String signature) {
+        int end = signature.indexOf(')');
+        String parameters = signature.substring(0, end).replaceAll("int \\w+(?=,|$)", "int");
+        return parameters + signature.substring(end).replace("Exception, ", "Exception ");
     }
 
     private static Set<String> dueMethods() {
