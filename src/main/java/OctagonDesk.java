@@ -1,5 +1,3 @@
-import java.util.Arrays;
-
 /**
  * Octagons over whole numbers: six slots with a shape each, and a small program that is gone
  * through with shapes until nothing new is reached. The document's words are used throughout.
@@ -12,6 +10,8 @@ public final class OctagonDesk {
     private static final int VARIABLES = 6;
     private static final int TERMS = 12;
     private static final int POINTS = 8;
+    private static final int CELLS = TERMS * (TERMS + 1) / 2;
+    private static final int SHAPES = SLOTS + 2 * POINTS + 1;
     private static final int STEP_LIMIT = 20;
     private static final int ROUND_LIMIT = 30;
     private static final int FIRST_WIDENING_ROUND = 4;
@@ -31,13 +31,14 @@ public final class OctagonDesk {
     private Shape[] reached;
 
     public OctagonDesk() {
-        slots = emptyShapes(SLOTS);
+        Bench bench = new Bench();
+        slots = emptyShapes(bench, SLOTS);
         for (int slot = 0; slot < SLOTS; slot++) {
             slots[slot].allowAll();
         }
-        left = emptyShapes(POINTS);
-        reached = emptyShapes(POINTS);
-        made = new Shape();
+        left = emptyShapes(bench, POINTS);
+        reached = emptyShapes(bench, POINTS);
+        made = new Shape(bench);
         offsets = new long[VARIABLES];
         stepCount = 0;
         steps = new Step[STEP_LIMIT];
@@ -50,7 +51,7 @@ public final class OctagonDesk {
         requireSlot(slot);
         requireAction(kind, a, b, c);
         made.makeFrom(slots[slot], kind, a, b, c);
-        putMade(slot);
+        slots[slot].takeOver(made);
         return !slots[slot].empty;
     }
 
@@ -69,7 +70,7 @@ public final class OctagonDesk {
         requireThreeSlots(to, a, b);
         made.takeOver(slots[a]);
         made.cutTo(slots[b]);
-        putMade(to);
+        slots[to].takeOver(made);
         return !slots[to].empty;
     }
 
@@ -77,14 +78,14 @@ public final class OctagonDesk {
         requireThreeSlots(to, a, b);
         made.takeOver(slots[a]);
         made.stretchOver(slots[b]);
-        putMade(to);
+        slots[to].takeOver(made);
     }
 
     public void widen(int to, int a, int b) throws IllegalArgumentException {
         requireThreeSlots(to, a, b);
         made.takeOver(slots[a]);
         made.loosenBy(slots[b]);
-        putMade(to);
+        slots[to].takeOver(made);
     }
 
     public void forget(int slot, int i) throws IllegalArgumentException {
@@ -123,7 +124,6 @@ public final class OctagonDesk {
         made.takeOver(slots[slot]);
         for (int variable = 0; variable <= i; variable++) {
             made.settle(variable);
-            makeRoom(made);
         }
         return made.mostOf(2 * i, 2 * i);
     }
@@ -163,7 +163,7 @@ public final class OctagonDesk {
     public int run(int slot) throws IllegalArgumentException {
         requireSlot(slot);
         for (int point = 0; point < POINTS; point++) {
-            reached[point].empty = true;
+            reached[point].allowNone();
         }
         reached[0].takeOver(slots[slot]);
         for (int round = 1; round <= ROUND_LIMIT; round++) {
@@ -188,10 +188,10 @@ public final class OctagonDesk {
         return !slots[to].empty;
     }
 
-    private static Shape[] emptyShapes(int count) {
+    private static Shape[] emptyShapes(Bench bench, int count) {
         Shape[] shapes = new Shape[count];
         for (int i = 0; i < count; i++) {
-            shapes[i] = new Shape();
+            shapes[i] = new Shape(bench);
         }
         return shapes;
     }
@@ -262,39 +262,15 @@ public final class OctagonDesk {
         return term ^ 1;
     }
 
-    private void putMade(int slot) {
-        makeRoom(made);
-        slots[slot].takeOver(made);
-    }
-
-    /** All shapes have numbers of one width, so that any two of them can be compared cell by cell. */
-    private void makeRoom(Shape shape) {
-        if (shape.empty || !shape.numbers.isCrowded()) {
-            return;
-        }
-        growAll(slots);
-        growAll(left);
-        growAll(reached);
-        made.numbers.growTwofold();
-    }
-
-    private static void growAll(Shape[] shapes) {
-        for (int i = 0; i < shapes.length; i++) {
-            shapes[i].numbers.growTwofold();
-        }
-    }
-
     private boolean follow(Step step, int round) {
         Shape end = reached[step.to];
         made.makeFrom(reached[step.from], step.kind, step.a, step.b, step.c);
-        makeRoom(made);
         if (made.isWithin(end)) {
             return false;
         }
         if (round >= FIRST_WIDENING_ROUND && step.to <= step.from) {
             // A most is greater in the join than at the end just where it is so in what was made.
             end.loosenBy(made);
-            makeRoom(end);
         } else {
             end.stretchOver(made);
         }
@@ -366,27 +342,59 @@ public final class OctagonDesk {
         }
     }
 
+    /** What the shapes of one desk share: the numbers in their cells, and rows to work something out in. */
+    private static final class Bench {
+        private static final int SPARE = TERMS;
+        private static final int SCRATCH = TERMS + 1;
+
+        final Numbers numbers;
+        /** Of each term what it says alone, and a spare number. */
+        final long[] scratch;
+        final boolean[] loose;
+
+        Bench() {
+            numbers = new Numbers(SHAPES * CELLS + SCRATCH + 1);
+            scratch = new long[SCRATCH];
+            loose = new boolean[CELLS];
+        }
+
+        void note(int i, long number) {
+            scratch[i] = numbers.replace(scratch[i], number);
+        }
+    }
+
     /**
      * The cell of two terms p and q says the most that p + q is, so that of p and p is twice the
      * most of p alone, and that of p and its negation is 0. Between calls the cells of a shape
      * that is not empty are as low as its places let them be; an empty shape's cells say nothing.
      */
     private static final class Shape {
-        private static final int PAIRS = TERMS * TERMS;
-        private static final int ALONE = PAIRS;
-        private static final int SPARE = ALONE + TERMS;
-        private static final int CELLS = SPARE + 1;
-
-        final Numbers numbers;
+        private final Bench bench;
+        private final Numbers numbers;
+        private final long[] cells;
         boolean empty;
 
-        Shape() {
-            numbers = new Numbers(CELLS);
+        Shape(Bench shared) {
+            bench = shared;
+            numbers = shared.numbers;
+            cells = new long[CELLS];
             empty = true;
         }
 
         private static int cell(int p, int q) {
-            return p * TERMS + q;
+            return p < q ? q * (q + 1) / 2 + p : p * (p + 1) / 2 + q;
+        }
+
+        private void put(int i, long number) {
+            cells[i] = numbers.replace(cells[i], number);
+        }
+
+        /** Cells that say nothing name no number, so that its room is free for others. */
+        void allowNone() {
+            empty = true;
+            for (int i = 0; i < CELLS; i++) {
+                cells[i] = numbers.replace(cells[i], 0);
+            }
         }
 
         void allowAll() {
@@ -397,8 +405,10 @@ public final class OctagonDesk {
         }
 
         void takeOver(Shape other) {
-            numbers.takeOver(other.numbers);
             empty = other.empty;
+            for (int i = 0; i < CELLS; i++) {
+                put(i, other.cells[i]);
+            }
         }
 
         void makeFrom(Shape before, int kind, int a, int b, int c) {
@@ -407,8 +417,11 @@ public final class OctagonDesk {
                 return;
             }
             takeOver(before);
+            if (empty) {
+                return;
+            }
             if (kind == BOUND) {
-                numbers.set(SPARE, a == b ? 2 * c : c);
+                bench.note(Bench.SPARE, a == b ? 2 * c : c);
                 holdToSpare(a, b);
             } else {
                 scatter(a, b, c);
@@ -417,28 +430,27 @@ public final class OctagonDesk {
 
         /** What xi's bounds said of the others stays, since the others' cells are as low as can be. */
         void release(int i) {
-            for (int p = 2 * i; p <= 2 * i + 1; p++) {
+            for (int p = 2 * i; p <= 2 * i + 1 && !empty; p++) {
                 for (int q = 0; q < TERMS; q++) {
-                    numbers.setInfinite(cell(p, q));
-                    numbers.setInfinite(cell(q, p));
+                    put(cell(p, q), q == negation(p) ? 0 : INFINITE);
                 }
             }
-            numbers.set(cell(2 * i, 2 * i + 1), 0);
-            numbers.set(cell(2 * i + 1, 2 * i), 0);
         }
 
-        /** Keeps the places at which p + q is at most what the spare cell says. */
+        /** Keeps the places at which p + q is at most what the spare number says. */
         private void holdToSpare(int p, int q) {
-            if (empty || !numbers.isLess(SPARE, numbers, cell(p, q))) {
+            if (!numbers.isLess(bench.scratch[Bench.SPARE], cells[cell(p, q)])) {
                 return;
             }
-            numbers.put(cell(p, q), numbers, SPARE);
-            numbers.put(cell(q, p), numbers, SPARE);
+            put(cell(p, q), bench.scratch[Bench.SPARE]);
             passThrough(p, q);
             if (p != q) {
                 passThrough(q, p);
             }
             combineSingles();
+            if (empty) {
+                allowNone();
+            }
         }
 
         /** What the new value adds up to is what its term added up to before, so nothing is lost. */
@@ -447,9 +459,9 @@ public final class OctagonDesk {
             for (int p = 0; p < TERMS; p++) {
                 int oldP = oldTerm(p, variable, term);
                 int moreP = moreOf(p, variable, more);
-                for (int q = 0; q < TERMS; q++) {
+                for (int q = 0; q <= p; q++) {
                     int old = cell(oldP, oldTerm(q, variable, term));
-                    numbers.putMore(cell(p, q), before.numbers, old, moreP + moreOf(q, variable, more));
+                    put(cell(p, q), numbers.sum(before.cells[old], moreP + moreOf(q, variable, more)));
                 }
             }
         }
@@ -470,24 +482,26 @@ public final class OctagonDesk {
 
         private void scatter(int i, long least, long greatest) {
             release(i);
-            numbers.set(cell(2 * i, 2 * i), 2 * greatest);
-            numbers.set(cell(2 * i + 1, 2 * i + 1), -2 * least);
+            put(cell(2 * i, 2 * i), 2 * greatest);
+            put(cell(2 * i + 1, 2 * i + 1), -2 * least);
             combineSingles();
         }
 
         void cutTo(Shape other) {
-            if (other.empty) {
-                empty = true;
-            }
-            if (empty) {
+            if (empty || other.empty) {
+                allowNone();
                 return;
             }
-            for (int i = 0; i < PAIRS; i++) {
-                if (other.numbers.isLess(i, numbers, i)) {
-                    numbers.put(i, other.numbers, i);
+            for (int i = 0; i < CELLS; i++) {
+                bench.loose[i] = true;
+                if (numbers.isLess(other.cells[i], cells[i])) {
+                    put(i, other.cells[i]);
                 }
             }
             close();
+            if (empty) {
+                allowNone();
+            }
         }
 
         /** Joined with an empty shape, or widened by or from one, a shape stays as it is. */
@@ -504,9 +518,9 @@ public final class OctagonDesk {
             if (isSettledByEmptiness(other)) {
                 return;
             }
-            for (int i = 0; i < PAIRS; i++) {
-                if (numbers.isLess(i, other.numbers, i)) {
-                    numbers.put(i, other.numbers, i);
+            for (int i = 0; i < CELLS; i++) {
+                if (numbers.isLess(cells[i], other.cells[i])) {
+                    put(i, other.cells[i]);
                 }
             }
         }
@@ -515,9 +529,10 @@ public final class OctagonDesk {
             if (isSettledByEmptiness(other)) {
                 return;
             }
-            for (int i = 0; i < PAIRS; i++) {
-                if (numbers.isLess(i, other.numbers, i)) {
-                    numbers.setInfinite(i);
+            for (int i = 0; i < CELLS; i++) {
+                bench.loose[i] = numbers.isLess(cells[i], other.cells[i]);
+                if (bench.loose[i]) {
+                    put(i, INFINITE);
                 }
             }
             close();
@@ -527,8 +542,8 @@ public final class OctagonDesk {
             if (empty || other.empty) {
                 return empty;
             }
-            for (int i = 0; i < PAIRS; i++) {
-                if (other.numbers.isLess(i, numbers, i)) {
+            for (int i = 0; i < CELLS; i++) {
+                if (numbers.isLess(other.cells[i], cells[i])) {
                     return false;
                 }
             }
@@ -537,17 +552,17 @@ public final class OctagonDesk {
 
         long mostOf(int p, int q) {
             if (p != q) {
-                return numbers.nearestLong(cell(p, q));
+                return numbers.nearestLong(cells[cell(p, q)]);
             }
-            numbers.putHalf(SPARE, cell(p, p));
-            return numbers.nearestLong(SPARE);
+            bench.note(Bench.SPARE, numbers.half(cells[cell(p, p)]));
+            return numbers.nearestLong(bench.scratch[Bench.SPARE]);
         }
 
         int countBounds() {
             int count = 0;
             for (int p = 0; p < TERMS; p++) {
                 for (int q = p; q < TERMS; q++) {
-                    if (q != negation(p) && !numbers.isInfinite(cell(p, q))) {
+                    if (q != negation(p) && cells[cell(p, q)] != INFINITE) {
                         count++;
                     }
                 }
@@ -559,15 +574,15 @@ public final class OctagonDesk {
         void settle(int i) {
             int up = cell(2 * i, 2 * i);
             int down = cell(2 * i + 1, 2 * i + 1);
-            if (numbers.isInfinite(up) && numbers.isInfinite(down)) {
-                numbers.set(SPARE, 0);
+            if (cells[up] == INFINITE && cells[down] == INFINITE) {
+                bench.note(Bench.SPARE, 0);
                 holdToSpare(2 * i, 2 * i);
             }
-            if (numbers.isInfinite(down)) {
-                numbers.putNegative(SPARE, up);
+            if (cells[down] == INFINITE) {
+                bench.note(Bench.SPARE, numbers.negative(cells[up]));
                 holdToSpare(2 * i + 1, 2 * i + 1);
             } else {
-                numbers.putNegative(SPARE, down);
+                bench.note(Bench.SPARE, numbers.negative(cells[down]));
                 holdToSpare(2 * i, 2 * i);
             }
         }
@@ -576,16 +591,16 @@ public final class OctagonDesk {
         boolean shiftToLeast() {
             for (int i = 0; i < VARIABLES; i++) {
                 int down = cell(2 * i + 1, 2 * i + 1);
-                if (numbers.isInfinite(cell(2 * i, 2 * i)) || numbers.isInfinite(down)) {
+                if (cells[cell(2 * i, 2 * i)] == INFINITE || cells[down] == INFINITE) {
                     return false;
                 }
-                numbers.putHalf(ALONE + 2 * i, down);
-                numbers.putNegative(ALONE + 2 * i + 1, ALONE + 2 * i);
+                bench.note(2 * i, numbers.half(cells[down]));
+                bench.note(2 * i + 1, numbers.negative(bench.scratch[2 * i]));
             }
             for (int p = 0; p < TERMS; p++) {
-                for (int q = 0; q < TERMS; q++) {
-                    numbers.putSum(cell(p, q), cell(p, q), ALONE + p);
-                    numbers.putSum(cell(p, q), cell(p, q), ALONE + q);
+                for (int q = 0; q <= p; q++) {
+                    put(cell(p, q), numbers.sum(cells[cell(p, q)], bench.scratch[p]));
+                    put(cell(p, q), numbers.sum(cells[cell(p, q)], bench.scratch[q]));
                 }
             }
             return true;
@@ -593,25 +608,36 @@ public final class OctagonDesk {
 
         /** Lowers what chains of bounds add up to that go through the cell of p and q once. */
         private void passThrough(int p, int q) {
-            numbers.putSum(SPARE, cell(p, q), cell(negation(q), negation(p)));
-            if (empty || numbers.isNegative(SPARE)) {
+            if (empty || numbers.isSumLess(cells[cell(p, q)], cells[cell(negation(q), negation(p))], 0)) {
                 empty = true;
                 return;
             }
             for (int i = 0; i < TERMS; i++) {
-                numbers.putSum(SPARE, cell(i, negation(p)), cell(p, q));
-                for (int j = 0; j < TERMS && !numbers.isInfinite(SPARE); j++) {
-                    numbers.lower(cell(i, j), SPARE, cell(negation(q), j));
+                bench.note(Bench.SPARE, numbers.sum(cells[cell(i, negation(p))], cells[cell(p, q)]));
+                long through = bench.scratch[Bench.SPARE];
+                for (int j = 0; j < TERMS && through != INFINITE; j++) {
+                    long on = cells[cell(negation(q), j)];
+                    if (numbers.isSumLess(through, on, cells[cell(i, j)])) {
+                        put(cell(i, j), numbers.sum(through, on));
+                    }
                 }
             }
         }
 
-        /** Stops at the first contradiction, since sums that go round one grow without need. */
+        /**
+         * Lowers loose cells to what chains of bounds add up to. Stops at the first contradiction,
+         * since sums that go round one grow without need.
+         */
         private void close() {
             for (int k = 0; k < TERMS && !empty; k++) {
                 for (int p = 0; p < TERMS; p++) {
-                    for (int q = 0; q < TERMS && !numbers.isInfinite(cell(p, k)); q++) {
-                        numbers.lower(cell(p, q), cell(p, k), cell(negation(k), q));
+                    for (int q = 0; q < TERMS && cells[cell(p, k)] != INFINITE; q++) {
+                        int at = cell(p, q);
+                        long to = cells[cell(p, k)];
+                        long on = cells[cell(negation(k), q)];
+                        if (bench.loose[at] && numbers.isSumLess(to, on, cells[at])) {
+                            put(at, numbers.sum(to, on));
+                        }
                     }
                 }
                 findContradiction();
@@ -625,208 +651,333 @@ public final class OctagonDesk {
                 return;
             }
             for (int p = 0; p < TERMS; p++) {
-                numbers.putHalf(ALONE + p, cell(p, p));
+                bench.note(p, numbers.half(cells[cell(p, p)]));
             }
             for (int p = 0; p < TERMS; p++) {
-                for (int q = 0; q < TERMS && !numbers.isInfinite(ALONE + p); q++) {
-                    numbers.lower(cell(p, q), ALONE + p, ALONE + q);
+                for (int q = 0; q <= p && bench.scratch[p] != INFINITE; q++) {
+                    if (numbers.isSumLess(bench.scratch[p], bench.scratch[q], cells[cell(p, q)])) {
+                        put(cell(p, q), numbers.sum(bench.scratch[p], bench.scratch[q]));
+                    }
                 }
             }
             findContradiction();
         }
 
         private void findContradiction() {
-            for (int p = 0; p < TERMS; p++) {
-                if (numbers.isNegative(cell(p, negation(p)))) {
+            for (int p = 0; p < TERMS; p += 2) {
+                if (numbers.isNegative(cells[cell(p, negation(p))])) {
                     empty = true;
                 }
             }
         }
     }
 
+    /** Limbs of a giant, the lowest first, or, without a giant, of the next that needs some. */
+    private static final class Block {
+        private static final int LIMBS = 32;
+
+        final long[] limbs;
+        Block next;
+
+        Block() {
+            limbs = new long[LIMBS];
+        }
+    }
+
     /**
-     * Cells with a whole number each, or infinite. Meeting shapes that were built of one another
-     * doubles numbers, and so does a run that comes to no end, both far beyond long; so a number has
-     * limbs: the highest one with the sign, those below it from 0 to LIMB_MASK. With one limb, which
-     * is nearly always enough, it is a plain long.
+     * A whole number in limbs: the highest one with the sign, neither 0 nor -1, those below it from 0
+     * to LIMB_MASK, those above it in its block 0.
+     */
+    private static final class Giant {
+        private static final int FIRST_BLOCKS = 4;
+
+        final long name;
+        Block[] blocks;
+        int blockCount;
+        int length;
+        int uses;
+        Giant next;
+
+        Giant(long ownName) {
+            name = ownName;
+            blocks = new Block[FIRST_BLOCKS];
+        }
+
+        long limb(int i) {
+            return blocks[i / Block.LIMBS].limbs[i % Block.LIMBS];
+        }
+
+        long top() {
+            return limb(length - 1);
+        }
+    }
+
+    /**
+     * Whole numbers of any size, each named by a long: a plain one by itself, so is INFINITE, and a
+     * giant, which is too great or too small to be plain, by its name. Giants take the room that they
+     * need, are shared by all cells that got them from one another, and give their room back when no
+     * cell names them any more.
      */
     private static final class Numbers {
         private static final int LIMB_BITS = 60;
         private static final long LIMB_MASK = (1L << LIMB_BITS) - 1;
-        private static final long GREATEST_LONG = INFINITE;
-        private static final long LEAST_LONG = -INFINITE - 1;
-        // No action makes a number more than some fifty times as great, which a limb then still holds.
-        private static final long CROWDED = 1L << 54;
-        // Far above what 512 calls can reach.
-        private static final int LIMB_LIMIT = 512;
+        private static final long GIANTS = 1L << 62;
+        private static final int BLOCK_LIMIT = 180000;
 
-        private final int cells;
-        private final int sum;
-        private long[] limbs;
-        private int top;
+        private final Giant[] giants;
+        private final Giant plainA;
+        private final Giant plainB;
+        private final Giant plainC;
+        private final long[] zeros;
+        private int giantCount;
+        private int blockCount;
+        private Giant freeGiants;
+        private Block freeBlocks;
 
-        Numbers(int count) {
-            sum = count;
-            cells = count + 1;
-            limbs = new long[cells];
-            top = 0;
+        Numbers(int giantLimit) {
+            giants = new Giant[giantLimit];
+            plainA = onePlain();
+            plainB = onePlain();
+            plainC = onePlain();
+            zeros = new long[Block.LIMBS];
+            giantCount = 0;
+            blockCount = 0;
         }
 
-        boolean isInfinite(int i) {
-            return limbs[top + i] == INFINITE;
+        private static Giant onePlain() {
+            Giant plain = new Giant(0);
+            plain.blocks[0] = new Block();
+            plain.blockCount = 1;
+            plain.length = 1;
+            return plain;
         }
 
-        boolean isNegative(int i) {
-            return limbs[top + i] < 0;
+        private static boolean isGiant(long number) {
+            return number >= GIANTS && number != INFINITE;
         }
 
-        boolean isLess(int i, Numbers other, int j) {
-            for (int at = top; at >= 0; at -= cells) {
-                long mine = limbs[at + i];
-                long others = other.limbs[at + j];
-                if (mine != others) {
-                    return mine < others;
+        private static boolean isPlain(long sum) {
+            return sum >= -LIMB_MASK - 1 && sum <= LIMB_MASK;
+        }
+
+        private Giant giant(long name) {
+            return giants[(int) (name - GIANTS)];
+        }
+
+        /** The number now, which is named from here on where the number before was. */
+        long replace(long before, long now) {
+            if (isGiant(now)) {
+                giant(now).uses++;
+            }
+            if (isGiant(before)) {
+                Giant giant = giant(before);
+                giant.uses--;
+                if (giant.uses == 0) {
+                    shorten(giant, 0);
                 }
             }
-            return false;
+            return now;
         }
 
-        long nearestLong(int i) {
-            long value = limbs[top + i];
-            if (value == INFINITE) {
+        boolean isNegative(long number) {
+            return isGiant(number) ? giant(number).top() < 0 : number < 0;
+        }
+
+        boolean isLess(long a, long b) {
+            return a != b && isSumLess(a, 0, b);
+        }
+
+        /** Goes down from the highest limbs until those below it can no more make up for the difference. */
+        boolean isSumLess(long a, long b, long limit) {
+            if (a == INFINITE || b == INFINITE || limit == INFINITE) {
+                return a != INFINITE && b != INFINITE;
+            }
+            if (a < GIANTS && b < GIANTS && limit < GIANTS) {
+                return a + b < limit;
+            }
+            Giant x = read(a, plainA);
+            Giant y = read(b, plainB);
+            Giant z = read(limit, plainC);
+            long above = 0;
+            for (int i = Math.max(z.blockCount, Math.max(x.blockCount, y.blockCount)) - 1; i >= 0; i--) {
+                long[] xs = limbs(x, i);
+                long[] ys = limbs(y, i);
+                long[] zs = limbs(z, i);
+                for (int at = Block.LIMBS - 1; at >= 0; at--) {
+                    above = (above << LIMB_BITS) + xs[at] + ys[at] - zs[at];
+                    if (above >= 3 || above <= -3) {
+                        return above < 0;
+                    }
+                }
+            }
+            return above < 0;
+        }
+
+        long sum(long a, long b) {
+            if (a == INFINITE || b == INFINITE) {
                 return INFINITE;
             }
-            for (int at = top - cells; at >= 0; at -= cells) {
-                if (value > GREATEST_LONG >> LIMB_BITS) {
-                    return GREATEST_LONG;
-                }
-                if (value < LEAST_LONG >> LIMB_BITS) {
-                    return LEAST_LONG;
-                }
-                value = (value << LIMB_BITS) + limbs[at + i];
+            if (a < GIANTS && b < GIANTS && isPlain(a + b)) {
+                return a + b;
             }
-            return value;
-        }
-
-        void takeOver(Numbers other) {
-            System.arraycopy(other.limbs, 0, limbs, 0, limbs.length);
-        }
-
-        void set(int i, long value) {
-            long rest = value;
-            for (int at = 0; at < top; at += cells) {
-                limbs[at + i] = rest & LIMB_MASK;
-                rest >>= LIMB_BITS;
+            if (b == 0) {
+                return a;
             }
-            limbs[top + i] = rest;
-        }
-
-        void setInfinite(int i) {
-            for (int at = 0; at < top; at += cells) {
-                limbs[at + i] = 0;
-            }
-            limbs[top + i] = INFINITE;
-        }
-
-        void put(int to, Numbers from, int i) {
-            for (int at = 0; at <= top; at += cells) {
-                limbs[at + to] = from.limbs[at + i];
-            }
-        }
-
-        void putMore(int to, Numbers from, int i, long more) {
-            if (from.isInfinite(i)) {
-                setInfinite(to);
-                return;
-            }
-            long carry = more;
-            for (int at = 0; at < top; at += cells) {
-                carry += from.limbs[at + i];
-                limbs[at + to] = carry & LIMB_MASK;
-                carry >>= LIMB_BITS;
-            }
-            limbs[top + to] = from.limbs[top + i] + carry;
-        }
-
-        void putSum(int to, int i, int j) {
-            boolean infinite = limbs[top + i] == INFINITE || limbs[top + j] == INFINITE;
-            long carry = 0;
-            for (int at = 0; at < top; at += cells) {
-                carry += limbs[at + i] + limbs[at + j];
-                limbs[at + to] = infinite ? 0 : carry & LIMB_MASK;
-                carry >>= LIMB_BITS;
-            }
-            limbs[top + to] = infinite ? INFINITE : limbs[top + i] + limbs[top + j] + carry;
-        }
-
-        void lower(int i, int j, int k) {
-            putSum(sum, j, k);
-            if (isLess(sum, this, i)) {
-                put(i, this, sum);
-            }
-        }
-
-        void putNegative(int to, int i) {
-            if (isInfinite(i)) {
-                setInfinite(to);
-                return;
+            Giant x = read(a, plainA);
+            Giant y = read(b, plainB);
+            Giant to = newGiant(Math.max(x.length, y.length) / Block.LIMBS + 1);
+            if (to == null) {
+                return INFINITE;
             }
             long carry = 0;
-            for (int at = 0; at < top; at += cells) {
-                carry -= limbs[at + i];
-                limbs[at + to] = carry & LIMB_MASK;
-                carry >>= LIMB_BITS;
+            for (int i = 0; i < to.blockCount; i++) {
+                carry = addLimbs(to.blocks[i].limbs, limbs(x, i), limbs(y, i), 1, carry);
             }
-            limbs[top + to] = carry - limbs[top + i];
+            return finish(to, carry);
         }
 
-        void putHalf(int to, int i) {
-            if (isInfinite(i)) {
-                setInfinite(to);
-                return;
+        long negative(long a) {
+            if (a == INFINITE) {
+                return INFINITE;
             }
-            long rest = limbs[top + i] & 1;
-            limbs[top + to] = limbs[top + i] >> 1;
-            for (int at = top - cells; at >= 0; at -= cells) {
-                long limb = limbs[at + i] + (rest << LIMB_BITS);
-                rest = limb & 1;
-                limbs[at + to] = limb >> 1;
+            if (a < GIANTS && isPlain(-a)) {
+                return -a;
             }
+            Giant x = read(a, plainA);
+            Giant to = newGiant(x.length / Block.LIMBS + 1);
+            if (to == null) {
+                return INFINITE;
+            }
+            long carry = 0;
+            for (int i = 0; i < to.blockCount; i++) {
+                carry = addLimbs(to.blocks[i].limbs, zeros, limbs(x, i), -1, carry);
+            }
+            return finish(to, carry);
         }
 
-        boolean isCrowded() {
-            for (int i = 0; i < cells; i++) {
-                long high = limbs[top + i];
-                if (high != INFINITE && (high >= CROWDED || high < -CROWDED)) {
-                    return true;
+        /** Rounded down. */
+        long half(long a) {
+            if (!isGiant(a)) {
+                return a == INFINITE ? INFINITE : a >> 1;
+            }
+            Giant x = giant(a);
+            Giant to = newGiant(x.blockCount);
+            if (to == null) {
+                return INFINITE;
+            }
+            long sign = x.top() < 0 ? -1 : 0;
+            long higher = sign;
+            for (int i = to.blockCount - 1; i >= 0; i--) {
+                for (int at = Block.LIMBS - 1; at >= 0; at--) {
+                    long limb = i * Block.LIMBS + at < x.length ? x.blocks[i].limbs[at] : sign;
+                    to.blocks[i].limbs[at] = (limb >> 1 | higher << (LIMB_BITS - 1)) & LIMB_MASK;
+                    higher = limb;
                 }
             }
-            return false;
+            return finish(to, sign);
         }
 
-        void growTwofold() {
-            if (limbs.length >= LIMB_LIMIT * cells) {
-                return;
+        long nearestLong(long number) {
+            if (!isGiant(number)) {
+                return number;
             }
-            int oldTop = top;
-            limbs = Arrays.copyOf(limbs, 2 * limbs.length);
-            top = limbs.length - cells;
-            for (int i = 0; i < cells; i++) {
-                extend(i, oldTop);
+            Giant giant = giant(number);
+            long top = giant.top();
+            if (giant.length > 2 || top > INFINITE >> LIMB_BITS || top < (-INFINITE - 1) >> LIMB_BITS) {
+                return top < 0 ? -INFINITE - 1 : INFINITE;
+            }
+            return (top << LIMB_BITS) + giant.limb(0);
+        }
+
+        /** A giant to read from: the plain number's limb is put into the one that is lent for it. */
+        private Giant read(long number, Giant lent) {
+            if (isGiant(number)) {
+                return giant(number);
+            }
+            lent.blocks[0].limbs[0] = number;
+            return lent;
+        }
+
+        private long[] limbs(Giant giant, int i) {
+            return i < giant.blockCount ? giant.blocks[i].limbs : zeros;
+        }
+
+        private static long addLimbs(long[] to, long[] a, long[] b, int sign, long carried) {
+            long carry = carried;
+            for (int at = 0; at < Block.LIMBS; at++) {
+                carry += a[at] + sign * b[at];
+                to[at] = carry & LIMB_MASK;
+                carry >>= LIMB_BITS;
+            }
+            return carry;
+        }
+
+        /** Null if there is no room for it. */
+        private Giant newGiant(int blocks) {
+            Giant giant = freeGiants;
+            if (giant != null) {
+                freeGiants = giant.next;
+            } else if (giantCount < giants.length) {
+                giant = new Giant(GIANTS + giantCount);
+                giants[giantCount] = giant;
+                giantCount++;
+            } else {
+                return null;
+            }
+            if (giant.blocks.length < blocks) {
+                giant.blocks = new Block[Math.max(blocks, 2 * giant.blocks.length)];
+            }
+            giant.uses = 0;
+            for (int i = 0; i < blocks; i++) {
+                Block block = freeBlocks;
+                if (block != null) {
+                    freeBlocks = block.next;
+                } else if (blockCount < BLOCK_LIMIT) {
+                    block = new Block();
+                    blockCount++;
+                } else {
+                    shorten(giant, 0);
+                    return null;
+                }
+                giant.blocks[i] = block;
+                giant.blockCount = i + 1;
+            }
+            return giant;
+        }
+
+        /** A giant without blocks is free to become another. */
+        private void shorten(Giant giant, int blocks) {
+            for (int i = giant.blockCount - 1; i >= blocks; i--) {
+                Block block = giant.blocks[i];
+                block.next = freeBlocks;
+                freeBlocks = block;
+            }
+            giant.blockCount = blocks;
+            if (blocks == 0) {
+                giant.next = freeGiants;
+                freeGiants = giant;
             }
         }
 
-        private void extend(int i, int oldTop) {
-            long high = limbs[oldTop + i];
-            if (high == INFINITE) {
-                setInfinite(i);
-                return;
+        /** The number with these limbs and the sign, 0 or -1, above them. */
+        private long finish(Giant giant, long sign) {
+            int length = giant.blockCount * Block.LIMBS;
+            while (length > 1 && giant.limb(length - 1) == (sign & LIMB_MASK)) {
+                length--;
             }
-            for (int at = oldTop; at < top; at += cells) {
-                limbs[at + i] = high & LIMB_MASK;
-                high >>= LIMB_BITS;
+            long top = giant.limb(length - 1) + (sign << LIMB_BITS);
+            if (length == 1) {
+                shorten(giant, 0);
+                return top;
             }
-            limbs[top + i] = high;
+            shorten(giant, (length - 1) / Block.LIMBS + 1);
+            long[] highest = giant.blocks[giant.blockCount - 1].limbs;
+            for (int at = (length - 1) % Block.LIMBS; at < Block.LIMBS; at++) {
+                highest[at] = 0;
+            }
+            highest[(length - 1) % Block.LIMBS] = top;
+            giant.length = length;
+            return giant.name;
         }
     }
 }
