@@ -288,7 +288,7 @@ public final class OctagonDesk {
         long box = 1;
         for (int i = 0; i < VARIABLES; i++) {
             long spread = made.mostOf(2 * i, 2 * i);
-            // Below 0 only behind call 512, when numbers may have outgrown all room: counting ends then, too.
+            // Below 0 only if numbers have outgrown all room, as they may behind call 512: counting ends then, too.
             if (spread < 0 || spread >= BOX_LIMIT) {
                 return false;
             }
@@ -342,17 +342,20 @@ public final class OctagonDesk {
         }
     }
 
-    /** What the shapes of one desk share: the numbers in their cells, and rows to work something out in. */
+    /**
+     * What the shapes of one desk share: the numbers in their cells, and rows to work something out
+     * in. The scratch row has a number for each term alone, and a spare one.
+     */
     private static final class Bench {
         private static final int SPARE = TERMS;
         private static final int SCRATCH = TERMS + 1;
 
         final Numbers numbers;
-        /** Of each term what it says alone, and a spare number. */
         final long[] scratch;
         final boolean[] loose;
 
         Bench() {
+            // Each giant is named by a cell or by the scratch row, but for one that is being made.
             numbers = new Numbers(SHAPES * CELLS + SCRATCH + 1);
             scratch = new long[SCRATCH];
             loose = new boolean[CELLS];
@@ -412,14 +415,15 @@ public final class OctagonDesk {
         }
 
         void makeFrom(Shape before, int kind, int a, int b, int c) {
+            if (before.empty) {
+                allowNone();
+                return;
+            }
             if (kind == TELLING) {
                 tell(before, a, b, c);
                 return;
             }
             takeOver(before);
-            if (empty) {
-                return;
-            }
             if (kind == BOUND) {
                 bench.note(Bench.SPARE, a == b ? 2 * c : c);
                 holdToSpare(a, b);
@@ -430,7 +434,10 @@ public final class OctagonDesk {
 
         /** What xi's bounds said of the others stays, since the others' cells are as low as can be. */
         void release(int i) {
-            for (int p = 2 * i; p <= 2 * i + 1 && !empty; p++) {
+            if (empty) {
+                return;
+            }
+            for (int p = 2 * i; p <= 2 * i + 1; p++) {
                 for (int q = 0; q < TERMS; q++) {
                     put(cell(p, q), q == negation(p) ? 0 : INFINITE);
                 }
@@ -455,7 +462,7 @@ public final class OctagonDesk {
 
         /** What the new value adds up to is what its term added up to before, so nothing is lost. */
         private void tell(Shape before, int variable, int term, int more) {
-            empty = before.empty;
+            empty = false;
             for (int p = 0; p < TERMS; p++) {
                 int oldP = oldTerm(p, variable, term);
                 int moreP = moreOf(p, variable, more);
@@ -672,7 +679,7 @@ public final class OctagonDesk {
         }
     }
 
-    /** Limbs of a giant, the lowest first, or, without a giant, of the next that needs some. */
+    /** Room for limbs: a giant's, the lowest first, or nobody's, and then it leads to the next that is nobody's. */
     private static final class Block {
         private static final int LIMBS = 32;
 
@@ -708,20 +715,23 @@ public final class OctagonDesk {
         }
 
         long top() {
-            return limb(length - 1);
+            return blocks[(length - 1) / Block.LIMBS].limbs[(length - 1) % Block.LIMBS];
         }
     }
 
     /**
-     * Whole numbers of any size, each named by a long: a plain one by itself, so is INFINITE, and a
-     * giant, which is too great or too small to be plain, by its name. Giants take the room that they
-     * need, are shared by all cells that got them from one another, and give their room back when no
-     * cell names them any more.
+     * Whole numbers of any size, each named by a long: a plain one by itself, and so is INFINITE; a
+     * giant, which is too great or too small to be plain, by its name. The document sets no bound to
+     * numbers, and runs from what runs before have left make them longer each time. So giants take
+     * from one room just the blocks that they need, cells that got them from one another share them,
+     * and they give their blocks back when no cell names them any more.
      */
     private static final class Numbers {
         private static final int LIMB_BITS = 60;
         private static final long LIMB_MASK = (1L << LIMB_BITS) - 1;
         private static final long GIANTS = 1L << 62;
+        // All that the room of a run holds: if every cell of every shape had a giant of its own, these
+        // could have some 200,000 bits each, which is more than any program was found to make in 512 calls.
         private static final int BLOCK_LIMIT = 180000;
 
         private final Giant[] giants;
@@ -787,7 +797,10 @@ public final class OctagonDesk {
             return a != b && isSumLess(a, 0, b);
         }
 
-        /** Goes down from the highest limbs until those below it can no more make up for the difference. */
+        /**
+         * Goes down from the highest limbs until those below cannot make up for the difference: what
+         * they say of a number is less than the limb above counts, and there are three numbers.
+         */
         boolean isSumLess(long a, long b, long limit) {
             if (a == INFINITE || b == INFINITE || limit == INFINITE) {
                 return a != INFINITE && b != INFINITE;
@@ -868,9 +881,11 @@ public final class OctagonDesk {
             long sign = x.top() < 0 ? -1 : 0;
             long higher = sign;
             for (int i = to.blockCount - 1; i >= 0; i--) {
+                long[] from = x.blocks[i].limbs;
+                long[] into = to.blocks[i].limbs;
                 for (int at = Block.LIMBS - 1; at >= 0; at--) {
-                    long limb = i * Block.LIMBS + at < x.length ? x.blocks[i].limbs[at] : sign;
-                    to.blocks[i].limbs[at] = (limb >> 1 | higher << (LIMB_BITS - 1)) & LIMB_MASK;
+                    long limb = i * Block.LIMBS + at < x.length ? from[at] : sign;
+                    into[at] = (limb >> 1 | higher << (LIMB_BITS - 1)) & LIMB_MASK;
                     higher = limb;
                 }
             }
@@ -927,7 +942,6 @@ public final class OctagonDesk {
             if (giant.blocks.length < blocks) {
                 giant.blocks = new Block[Math.max(blocks, 2 * giant.blocks.length)];
             }
-            giant.uses = 0;
             for (int i = 0; i < blocks; i++) {
                 Block block = freeBlocks;
                 if (block != null) {

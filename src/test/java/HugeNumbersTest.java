@@ -22,7 +22,7 @@ public final class HugeNumbersTest {
             new HugeNumbersTest("round", doublings).goingRound(doublings);
         }
         new HugeNumbersTest("run again", 1).runAgainAndAgain();
-        new HugeNumbersTest("run far", 1).runAsFarAsCanBe();
+        new HugeNumbersTest("run far", 1).runWithTwoDoublings();
         new HugeNumbersTest("halves", 1).halvesOnTheWay();
         for (int seed = 1; seed <= seeds && CHECK.isClean(); seed++) {
             new HugeNumbersTest("dice", seed).thrownByDice();
@@ -183,8 +183,8 @@ public final class HugeNumbersTest {
         lookAtOneMoreAndOneLess();
     }
 
-    /** Two doublings by each run, from point 0 to 3 and from 3 to 6: the most bits that 512 calls were found to make. */
-    private void runAsFarAsCanBe() {
+    /** Two doublings by each run, from point 0 to 3 and from 3 to 6, without a widening. */
+    private void runWithTwoDoublings() {
         desks.call("act", 0, 0, 0, 3, 999999);
         desks.call("act", 0, 0, 4, 7, 1000000);
         for (int point = 0; point <= 3; point += 3) {

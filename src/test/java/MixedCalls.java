@@ -22,6 +22,11 @@ final class MixedCalls {
         for (int slot = 0; slot < 6; slot++) {
             fill(slot);
         }
+        goOn(programs);
+    }
+
+    /** From slots as they are. */
+    void goOn(boolean programs) {
         // Calls that the plain desk does not make take none of the calls left, so tries are counted, too.
         for (int tries = 0; tries < 3000 && desks.callsLeft() > 0; tries++) {
             int sort = dice.below(programs ? 20 : 19);
